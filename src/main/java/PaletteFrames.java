@@ -528,8 +528,6 @@ public final class PaletteFrames {
             if (heldBits > 0) {
                 bytes.add(held & 255);
             }
-            held = 0;
-            heldBits = 0;
         }
     }
 
@@ -632,8 +630,8 @@ public final class PaletteFrames {
     private static final class Palette {
         private final int[] colours;
 
-        Palette(int symbols) {
-            colours = new int[symbols];
+        Palette(int symbolCount) {
+            colours = new int[symbolCount];
             Arrays.fill(colours, NONE);
         }
 
@@ -665,8 +663,8 @@ public final class PaletteFrames {
         int delay;
         int clearThrough;
 
-        Frame(int symbols) {
-            palette = new Palette(symbols);
+        Frame(int symbolCount) {
+            palette = new Palette(symbolCount);
             clearThrough = NONE;
         }
 
@@ -739,10 +737,10 @@ public final class PaletteFrames {
         final Palette palette;
         int count;
 
-        Screen(int symbols) {
-            palette = new Palette(symbols);
+        Screen(int symbolCount) {
+            palette = new Palette(symbolCount);
             for (int i = 0; i < MOST_FRAMES; i++) {
-                frames[i] = new Frame(symbols);
+                frames[i] = new Frame(symbolCount);
             }
         }
 
@@ -797,14 +795,16 @@ public final class PaletteFrames {
             return end == END_TO_BEFORE ? before : source;
         }
 
+        // The number of the last frame is NONE if there are no frames.
         int frameAt(int time, int times) {
+            int last = count - 1;
             int round = 0;
             for (int i = 0; i < count; i++) {
                 round += frames[i].delay;
             }
             boolean over = times > 0 && time >= (long) round * times;
             if (round <= 0 || over) {
-                return count - 1;
+                return last;
             }
             int left = time % round;
             for (int i = 0; i < count; i++) {
@@ -813,7 +813,7 @@ public final class PaletteFrames {
                 }
                 left -= frames[i].delay;
             }
-            return count - 1;
+            return last;
         }
     }
 }

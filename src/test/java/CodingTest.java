@@ -16,6 +16,7 @@ public final class CodingTest {
         ruleOneNeverClears();
         ruleTwoLooksAtSixtyFour();
         ruleTwoLooksAgain();
+        eachEncodeCountsAnew();
         CHECK.finish();
     }
 
@@ -198,6 +199,20 @@ public final class CodingTest {
         CHECK.due("63 poor codes behind the first look", clearsBehindTheFirstLook(63), 1);
         CHECK.due("64 poor codes behind the first look", clearsBehindTheFirstLook(64), 1);
         CHECK.due("65 poor codes behind the first look", clearsBehindTheFirstLook(65), 2);
+    }
+
+    private static void eachEncodeCountsAnew() {
+        PaletteFrames x = filledExactly(1);
+        x.put(101, 2, 60);
+        x.encode();
+        x.rule(2);
+        for (int i = 0; i < 3; i++) {
+            x.encode();
+            CHECK.due("60 poor codes, time " + i, x.coded(1), 1);
+        }
+        x.put(5, 0, 5);
+        x.encode();
+        CHECK.due("62 poor codes", x.coded(1), 1);
     }
 
     /** Pieces of four symbols each (the first of some other number), and some of one symbol. */
