@@ -9,6 +9,11 @@ final class Bits {
         return this;
     }
 
+    Bits then(Bits more) {
+        bits.append(more.bits);
+        return this;
+    }
+
     int[] bytes() {
         int[] bytes = new int[(bits.length() + 7) / 8];
         for (int i = 0; i < bits.length(); i++) {
@@ -21,5 +26,14 @@ final class Bits {
         for (int b : bytes()) {
             x.feed(b);
         }
+    }
+
+    /** The code that stands in what was coded last, from a bit on. */
+    static int codeOf(PaletteFrames x, int from, int width) {
+        int bytes = 0;
+        for (int i = from / 8; i * 8 < from + width; i++) {
+            bytes |= x.byteAt(i) << 8 * (i - from / 8);
+        }
+        return bytes >> from % 8 & (1 << width) - 1;
     }
 }

@@ -3,11 +3,17 @@ import java.util.function.IntSupplier;
 /** Counts and prints the answers of one test that are not the ones that are due. */
 final class Check {
     private final String test;
+    private String sentence = "";
     private int asked = 0;
     private int wrong = 0;
 
     Check(String test) {
         this.test = test;
+    }
+
+    /** The document's words that the answers from here on are held against. */
+    void says(String sentence) {
+        this.sentence = " '" + sentence + "'";
     }
 
     void due(String call, long got, long want) {
@@ -18,7 +24,7 @@ final class Check {
         asked++;
         if (!got.equals(want)) {
             wrong++;
-            System.out.println(test + ": " + call + " answered " + got + ", due is " + want);
+            System.out.println(test + sentence + ": " + call + " answered " + got + ", due is " + want);
         }
     }
 

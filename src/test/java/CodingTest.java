@@ -14,8 +14,6 @@ public final class CodingTest {
         byteAtEdges();
         ruleZeroClearsWhenFull();
         ruleOneNeverClears();
-        ruleTwoLooksAtSixtyFour();
-        ruleTwoLooksAgain();
         eachEncodeCountsAnew();
         CHECK.finish();
     }
@@ -162,7 +160,7 @@ public final class CodingTest {
     }
 
     private static void ruleZeroClearsWhenFull() {
-        PaletteFrames x = filledExactly(0);
+        PaletteFrames x = Rows.filledExactly(0);
         x.encode();
         CHECK.due("no CLEAR before END", x.coded(1), 1);
         CHECK.due("one entry is missing", x.coded(3), 3837);
@@ -175,7 +173,7 @@ public final class CodingTest {
     }
 
     private static void ruleOneNeverClears() {
-        PaletteFrames x = filledExactly(1);
+        PaletteFrames x = Rows.filledExactly(1);
         for (int i = 0; i < 5; i++) {
             x.put(5, 2, 1000);
         }
@@ -185,24 +183,8 @@ public final class CodingTest {
         CHECK.due("the width", x.coded(2), 12);
     }
 
-    private static void ruleTwoLooksAtSixtyFour() {
-        CHECK.due("64 codes for 256 symbols, and more", clearsBehindPieces(64, 4, 10), 1);
-        CHECK.due("64 codes for 255 symbols, and more", clearsBehindPieces(64, 3, 10), 2);
-        CHECK.due("64 codes for 255 symbols, and no more", clearsBehindPieces(64, 3, 0), 1);
-        CHECK.due("63 codes for few symbols, and no more", clearsBehindPieces(63, 1, 0), 1);
-        CHECK.due("63 codes for few symbols, and one", clearsBehindPieces(63, 1, 1), 1);
-        CHECK.due("63 codes for few symbols, and two", clearsBehindPieces(63, 1, 2), 2);
-    }
-
-    private static void ruleTwoLooksAgain() {
-        CHECK.due("128 codes for 512 symbols, and more", clearsBehindPieces(128, 4, 10), 1);
-        CHECK.due("63 poor codes behind the first look", clearsBehindTheFirstLook(63), 1);
-        CHECK.due("64 poor codes behind the first look", clearsBehindTheFirstLook(64), 1);
-        CHECK.due("65 poor codes behind the first look", clearsBehindTheFirstLook(65), 2);
-    }
-
     private static void eachEncodeCountsAnew() {
-        PaletteFrames x = filledExactly(1);
+        PaletteFrames x = Rows.filledExactly(1);
         x.put(101, 2, 60);
         x.encode();
         x.rule(2);
@@ -213,48 +195,5 @@ public final class CodingTest {
         x.put(5, 0, 5);
         x.encode();
         CHECK.due("62 poor codes", x.coded(1), 1);
-    }
-
-    /** Pieces of four symbols each (the first of some other number), and some of one symbol. */
-    private static int clearsBehindPieces(int pieces, int first, int singles) {
-        PaletteFrames x = filledExactly(2);
-        for (int i = 0; i < pieces; i++) {
-            x.put(i % 2 == 0 ? 5 : 9, 0, i == 0 ? first : 4);
-        }
-        if (singles > 0) {
-            // No two of these stand together in the table, so that each is a code.
-            x.put(101, 2, singles);
-        }
-        x.encode();
-        return x.coded(1);
-    }
-
-    private static int clearsBehindTheFirstLook(int singles) {
-        return clearsBehindPieces(64, 4, singles);
-    }
-
-    /**
-     * A row of 3838 codes, the last of which makes entry 4095 as soon as an odd symbol comes behind
-     * it. 5555 and 9999 are in the table; no other string that begins with an odd symbol and has
-     * an odd one behind it is.
-     */
-    private static PaletteFrames filledExactly(int rule) {
-        for (int n = 1; n <= 500; n++) {
-            PaletteFrames x = new PaletteFrames(8);
-            x.put(5, 0, 10);
-            x.put(0, 0, 1);
-            x.put(9, 0, 10);
-            for (int i = 0; i < 29; i++) {
-                x.put(0, 4 * i + 2, 128);
-            }
-            x.put(0, 4 * 29 + 2, n);
-            x.rule(1);
-            x.encode();
-            if (x.coded(0) == 1 + 3838 + 1) {
-                x.rule(rule);
-                return x;
-            }
-        }
-        throw new AssertionError("no row fills the table exactly");
     }
 }

@@ -1,8 +1,4 @@
-import java.lang.reflect.InvocationTargetException;
-import java.lang.reflect.Method;
 import java.util.Arrays;
-import java.util.HashMap;
-import java.util.Map;
 
 /** Runs of calls, the same in every run of the test, each answered as Model answers. */
 public final class ModelTest {
@@ -17,8 +13,6 @@ public final class ModelTest {
         "put put frame frame frame colour colour colour through shown shown shown symbol when",
         "put rule encode byteAt coded feed pass decode at take frame colour through shown symbol when passOf told clear",
     };
-    private static final Map<String, Method> REAL = methodsOf(PaletteFrames.class);
-    private static final Map<String, Method> MODEL = methodsOf(Model.class);
 
     private static long seed = 1;
     private final PaletteFrames real;
@@ -113,7 +107,7 @@ public final class ModelTest {
     }
 
     private Object[] argumentsOf(String name) {
-        Class<?>[] types = REAL.get(name).getParameterTypes();
+        Class<?>[] types = Calls.method(PaletteFrames.class, name).getParameterTypes();
         Object[] arguments = new Object[types.length];
         for (int i = 0; i < types.length; i++) {
             arguments[i] = types[i] == boolean.class ? (Object) (next(2) == 0) : (Object) likely(name, i);
@@ -178,27 +172,9 @@ public final class ModelTest {
 
     private void call(String name, Object... arguments) {
         calls++;
-        String got = answer(REAL.get(name), real, arguments);
-        String want = answer(MODEL.get(name), model, arguments);
+        String got = Calls.answer(real, name, arguments);
+        String want = Calls.answer(model, name, arguments);
         CHECK.due(run + ", call " + calls + ": " + name + Arrays.toString(arguments), got, want);
-    }
-
-    private static String answer(Method method, Object on, Object[] arguments) {
-        try {
-            return String.valueOf(method.invoke(on, arguments));
-        } catch (InvocationTargetException e) {
-            return "throws." + e.getCause().getClass().getSimpleName();
-        } catch (IllegalAccessException e) {
-            throw new AssertionError(e);
-        }
-    }
-
-    private static Map<String, Method> methodsOf(Class<?> face) {
-        Map<String, Method> methods = new HashMap<>();
-        for (Method method : face.getMethods()) {
-            methods.put(method.getName(), method);
-        }
-        return methods;
     }
 
     /** 0 .. below - 1, of a row of numbers that is always the same. */

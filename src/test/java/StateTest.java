@@ -7,6 +7,10 @@ public final class StateTest {
         clearMakesAllNew();
         clearMakesFramesNew();
         objectsAreApart();
+        clearIsAsNew();
+        clearedIsUsedAgain();
+        askingChangesNothing();
+        toldAtItsEdges();
         CHECK.finish();
     }
 
@@ -84,5 +88,65 @@ public final class StateTest {
         y.put(1, 1, 3);
         toldDue("of one", x, 3, 5, 2, 10, 2);
         toldDue("of the other", y, 4, 3, 0, 0, 0);
+    }
+
+    private static void clearIsAsNew() {
+        CHECK.says("All is as at first");
+        for (String state : States.NAMES) {
+            PaletteFrames x = States.make(state);
+            x.clear();
+            answersDue(state + ", cleared", x, new PaletteFrames(x.told(0)));
+            PaletteFrames twice = States.make(state);
+            twice.clear();
+            twice.clear();
+            answersDue(state + ", cleared twice", twice, new PaletteFrames(twice.told(0)));
+        }
+    }
+
+    private static void clearedIsUsedAgain() {
+        CHECK.says("All is as at first");
+        for (String before : States.NAMES) {
+            for (String state : States.NAMES) {
+                PaletteFrames x = States.make(before);
+                PaletteFrames y = new PaletteFrames(x.told(0));
+                x.clear();
+                States.bring(x, state);
+                States.bring(y, state);
+                answersDue(state + ", behind " + before + ", cleared", x, y);
+            }
+        }
+    }
+
+    /** Calls that only ask; every other call of the face has an answer that tells of a change. */
+    private static void askingChangesNothing() {
+        CHECK.says("Nothing is promised beyond the answers and state changes described above");
+        for (String state : States.NAMES) {
+            PaletteFrames x = States.make(state);
+            for (int i = 0; i < 5; i++) {
+                Calls.answer(x, "told", i);
+                Calls.answer(x, "coded", i);
+                Calls.answer(x, "byteAt", i);
+                Calls.answer(x, "at", i);
+                Calls.answer(x, "symbol", i, 0, 1);
+                Calls.answer(x, "shown", i, i, i);
+                Calls.answer(x, "when", 9 * i, i);
+                Calls.answer(x, "passOf", i);
+            }
+            answersDue(state + ", asked", x, States.make(state));
+        }
+    }
+
+    private static void toldAtItsEdges() {
+        CHECK.says("L (what = 0), symbols in the row (1), bytes that wait (2), symbols read last (3), frames (4); NONE for another what");
+        toldDue("a full row", States.make("a full row"), 8, 12000, 0, 0, 0);
+        toldDue("24000 bytes", States.make("24000 bytes wait"), 8, 12000, 24000, 0, 0);
+        toldDue("12000 read", States.make("read up to 12000"), 8, 12000, 0, 12000, 0);
+        toldDue("12 frames", States.make("12 frames and no row"), 8, 0, 0, 0, 12);
+        toldDue("an odd code", States.make("read up to an odd code"), 8, 0, 0, 4, 0);
+        toldDue("cleared", States.make("cleared"), 8, 0, 0, 0, 0);
+    }
+
+    private static void answersDue(String what, PaletteFrames x, PaletteFrames due) {
+        CHECK.due(what, States.answers(x).toString(), States.answers(due).toString());
     }
 }
