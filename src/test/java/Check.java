@@ -1,3 +1,4 @@
+import java.util.List;
 import java.util.function.IntSupplier;
 
 /** Counts and prints the answers of one test that are not the ones that are due. */
@@ -26,6 +27,17 @@ final class Check {
             wrong++;
             System.out.println(test + sentence + ": " + call + " answered " + got + ", due is " + want);
         }
+    }
+
+    /** Only the first answer that is another is told. */
+    void due(String calls, List<String> got, List<String> want) {
+        for (int i = 0; i < got.size() && i < want.size(); i++) {
+            if (!got.get(i).equals(want.get(i))) {
+                due(calls, got.get(i), want.get(i));
+                return;
+            }
+        }
+        due(calls + ", how many answers", got.size(), want.size());
     }
 
     /** The class must be the very one: what the machine itself throws is often of a class below it. */

@@ -17,6 +17,7 @@ public final class ReadingEdgesTest {
         readNothing();
         endsWhereNoWholeCodeIsLeft();
         lastCodeIsJustWhole();
+        lastCodeOfManyBitsIsJustWhole();
         endsWithEnd();
         withoutClearAtTheBeginning();
         oddAtFirstAndBehindClear();
@@ -211,6 +212,40 @@ public final class ReadingEdgesTest {
             }
             CHECK.due("decode() of one byte less, L " + least, x.decode(), least == 2 ? 2 : 3);
         }
+    }
+
+    private static void lastCodeOfManyBitsIsJustWhole() {
+        CHECK.says("it ends .. where no whole code is left");
+        for (int least = 5; least <= 8; least++) {
+            for (int width = 9; width <= 12; width++) {
+                // The last codes of that width.
+                cutBehind(least, (1 << width) - (1 << least) - 20);
+            }
+        }
+    }
+
+    /** Cut behind some codes, at each place in a byte, the last byte filled with 0, and one byte before. */
+    private static void cutBehind(int least, int from) {
+        PaletteFrames x = Rows.longRow(least);
+        x.encode();
+        int before = Rows.readCodes(least, from - 1).told(3);
+        for (int many = from; many < from + 12; many++) {
+            int due = Rows.readCodes(least, many).told(3);
+            Rows.passCodes(x, many, new Bits());
+            CHECK.due("decode() of " + many + " codes, L " + least, x.decode(), due);
+            CHECK.due("the last symbol of " + many + " codes, L " + least, x.at(due - 1), wholeRead(least).at(due - 1));
+            x.pass(0, (Rows.bitsOf(least, many) - 1) / 8);
+            CHECK.due("decode() of a part of code " + many + ", L " + least, x.decode(), before);
+            before = due;
+        }
+    }
+
+    private static PaletteFrames wholeRead(int least) {
+        PaletteFrames x = Rows.longRow(least);
+        x.encode();
+        x.pass(0, MOST);
+        x.decode();
+        return x;
     }
 
     private static void endsWithEnd() {

@@ -79,7 +79,7 @@ public final class RefusedTest {
         for (Refused call : calls) {
             PaletteFrames x = States.make(state);
             refuse(x, call);
-            compare(nameOf(call), States.answers(x), due);
+            CHECK.due(state + ", behind " + nameOf(call), States.answers(x), due);
         }
     }
 
@@ -91,22 +91,12 @@ public final class RefusedTest {
             for (int i = from; i < from + 100 && i < calls.size(); i++) {
                 refuse(x, calls.get(i));
             }
-            compare("a hundred refused calls", States.answers(x), due);
+            CHECK.due(state + ", behind a hundred refused calls", States.answers(x), due);
         }
     }
 
     private void refuse(PaletteFrames x, Refused call) {
         CHECK.due(state + ": " + nameOf(call), Calls.answer(x, call.name(), call.arguments()), call.due());
-    }
-
-    private void compare(String behind, List<String> got, List<String> due) {
-        for (int i = 0; i < due.size(); i++) {
-            if (!got.get(i).equals(due.get(i))) {
-                CHECK.due(state + ", behind " + behind, got.get(i), due.get(i));
-                return;
-            }
-        }
-        CHECK.due(state + ", behind " + behind, got.size(), due.size());
     }
 
     private static String nameOf(Refused call) {

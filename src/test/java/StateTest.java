@@ -147,6 +147,6 @@ public final class StateTest {
     }
 
     private static void answersDue(String what, PaletteFrames x, PaletteFrames due) {
-        CHECK.due(what, States.answers(x).toString(), States.answers(due).toString());
+        CHECK.due(what, States.answers(x), States.answers(due));
     }
 }

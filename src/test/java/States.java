@@ -5,8 +5,9 @@ import java.util.List;
 /** Objects in states of many kinds, each made anew by fewer than 100 calls, and what they answer then. */
 final class States {
     static final String[] NAMES = {
-        "new", "a row", "a full row", "a row to the last but one", "coded", "bytes wait", "24000 bytes wait", "read",
-        "read up to an odd code", "read up to 12000", "taken", "frames", "12 frames", "12 frames and no row", "all", "cleared",
+        "new", "a row", "a full row", "a row to the last but one", "coded", "bytes wait", "23990 bytes wait",
+        "24000 bytes wait", "read", "read up to an odd code", "read up to 12000", "taken", "frames", "12 frames",
+        "12 frames and no row", "all", "cleared",
     };
 
     private States() {
@@ -26,6 +27,7 @@ final class States {
             case "a row to the last but one" -> put(x, 11999);
             case "coded" -> code(x, 500);
             case "bytes wait" -> wait(x, 500, 100);
+            case "23990 bytes wait" -> wait(x, 12000, 23990);
             case "24000 bytes wait" -> wait(x, 12000, 24000);
             case "read" -> read(x, 700);
             case "read up to an odd code" -> readOdd(x);
@@ -64,8 +66,9 @@ final class States {
 
     private static void wait(PaletteFrames x, int many, int bytes) {
         code(x, many);
-        while (x.told(2) < bytes) {
-            x.pass(0, bytes - x.told(2));
+        int left = bytes;
+        for (int i = 0; i < 100 && left > 0; i++) {
+            left -= x.pass(0, left);
         }
     }
 
