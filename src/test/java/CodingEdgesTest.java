@@ -437,9 +437,8 @@ public final class CodingEdgesTest {
 
     private static void widthsGrowAtTheirCode() {
         CHECK.says("Behind the k-th code of an entry since then, if 2^L + 1 + k is 2^w, w being the width, below 12, it is one more");
-        int[] widest = {0, 0, 10, 11, 12, 12, 12, 12, 12};
         for (int least = 2; least <= 8; least++) {
-            for (int width = least + 1; width < widest[least]; width++) {
+            for (int width = least + 1; width < 12; width++) {
                 int k = (1 << width) - (1 << least) - 1;
                 endDue(least, k - 1, width);
                 endDue(least, k, width + 1);

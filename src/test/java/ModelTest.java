@@ -28,7 +28,12 @@ public final class ModelTest {
 
     public static void main(String[] args) {
         for (int i = 0; i < 400; i++) {
-            new ModelTest("run " + i, next(12) - 1).mixed(KINDS[i % KINDS.length].split(" "));
+            ModelTest test = new ModelTest("run " + i, next(12) - 1);
+            test.mixed(KINDS[i % KINDS.length].split(" "), MOST_CALLS / 2);
+            test.compareAll();
+        }
+        for (int i = 0; i < 60; i++) {
+            new ModelTest("whole run " + i, 2 + i % 7).mixed(KINDS[i % KINDS.length].split(" "), MOST_CALLS);
         }
         for (int i = 0; i < 60; i++) {
             new ModelTest("odd run " + i, 2 + i % 7).spoilt();
@@ -46,12 +51,11 @@ public final class ModelTest {
         CHECK.finish();
     }
 
-    private void mixed(String[] names) {
-        while (calls < MOST_CALLS / 2 && CHECK.isClean()) {
+    private void mixed(String[] names, int most) {
+        while (calls < most && CHECK.isClean()) {
             String name = names[next(names.length)];
             call(name, argumentsOf(name));
         }
-        compareAll();
     }
 
     /** Coded bytes with parts left out, and others between them. */

@@ -216,8 +216,8 @@ public final class ReadingEdgesTest {
 
     private static void lastCodeOfManyBitsIsJustWhole() {
         CHECK.says("it ends .. where no whole code is left");
-        for (int least = 5; least <= 8; least++) {
-            for (int width = 9; width <= 12; width++) {
+        for (int least = 2; least <= 8; least++) {
+            for (int width = 9; width <= (least < 5 ? 11 : 12); width++) {
                 // The last codes of that width.
                 cutBehind(least, (1 << width) - (1 << least) - 20);
             }
@@ -363,7 +363,7 @@ public final class ReadingEdgesTest {
             int greatest = (2 << least) - 1;
             readDue("the greatest of the first width", least, new Bits().code(greatest, least + 1), -1 - greatest);
         }
-        for (int least = 5; least <= 8; least++) {
+        for (int least = 2; least <= 8; least++) {
             // The first code of 12 bits.
             int k = 2048 - (1 << least) - 1;
             PaletteFrames x = Rows.longRow(least);
@@ -376,9 +376,8 @@ public final class ReadingEdgesTest {
 
     private static void widthsGrowAtTheirCode() {
         CHECK.says("READING is the same the other way round, .. with the widths as told");
-        int[] widest = {0, 0, 10, 11, 12, 12, 12, 12, 12};
         for (int least = 2; least <= 8; least++) {
-            for (int width = least + 1; width < widest[least]; width++) {
+            for (int width = least + 1; width < 12; width++) {
                 int k = (1 << width) - (1 << least) - 1;
                 readsCodes(least, k - 1, width);
                 readsCodes(least, k, width + 1);

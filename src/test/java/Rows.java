@@ -1,6 +1,6 @@
 /** Rows of many codes, and where each code stands in what they are coded to, reckoned anew from the document. */
 final class Rows {
-    private static final int PUTS = 300;
+    private static final int MOST_SYMBOLS = 12000;
 
     private Rows() {
     }
@@ -28,19 +28,44 @@ final class Rows {
         return bits;
     }
 
-    /** With rule 1; from L = 5 on it fills the table. Some 200 calls are left. */
+    /** With rule 1; from L = 5 on it fills the table, and below that it has codes of 12 bits. Some 170 calls are left. */
     static PaletteFrames longRow(int least) {
+        return least < 5 ? repeatedRow(least) : mixedRow(least, 300, 80);
+    }
+
+    /** So many puts, of up to so many symbols each. */
+    private static PaletteFrames mixedRow(int least, int puts, int most) {
         PaletteFrames x = new PaletteFrames(least);
         x.rule(1);
-        long seed = 3;
-        int left = 12000;
-        for (int i = 0; i < PUTS && left > 0; i++) {
+        long seed = 16;
+        int left = MOST_SYMBOLS;
+        for (int i = 0; i < puts && left > 0; i++) {
             seed = seed * 6364136223846793005L + 1442695040888963407L;
             int number = (int) (seed >>> 33);
-            int n = Math.min(left, 1 + (number >> 16 & 0x7FFF) % 80);
+            int n = Math.min(left, 1 + (number >> 16 & 0x7FFF) % most);
             x.put(number & 255, number >> 8 & 255, n);
             left -= n;
         }
+        return x;
+    }
+
+    /**
+     * One row of few symbols again and again: few puts make no row of so many codes. Each time it is cut behind
+     * a code where a CLEAR ends with a byte, so that what was coded can be passed once more behind that.
+     */
+    private static PaletteFrames repeatedRow(int least) {
+        PaletteFrames x = mixedRow(least, 260, 5);
+        int symbols = x.told(1);
+        x.encode();
+        int k = x.coded(0) - 2;
+        while ((bitsOf(least, k) + widthBehind(least, k)) % 8 != 0) {
+            k--;
+        }
+        for (int many = 0; many <= MOST_SYMBOLS / symbols; many++) {
+            passCodes(x, k, new Bits().code(1 << least, widthBehind(least, k)));
+        }
+        x.decode();
+        x.take();
         return x;
     }
 
